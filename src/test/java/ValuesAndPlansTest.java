@@ -7,6 +7,7 @@ public final class ValuesAndPlansTest {
         promises30To32Values();
         promises33And34Loads();
         promises35And36Splits();
+        promises33To36EachBin();
         promises37And38Trades();
         Check.end();
     }
@@ -102,6 +103,27 @@ public final class ValuesAndPlansTest {
     private static void split(SighGranary x, int difference) {
         Check.same("35: fairestSplit", x.fairestSplit(0), difference);
         Check.same("36: fairestSplitByTrying", x.fairestSplitByTrying(0), difference);
+    }
+
+    // Each call looks at its own bin, whichever one was asked before.
+    private static void promises33To36EachBin() {
+        SighGranary x = new SighGranary();
+        x.addBin(100, 'f');
+        x.addBin(100, 'f');
+        x.addSack(0, 10, 3, 0);
+        x.addSack(1, 20, 4, 0);
+        x.addSack(1, 5, 1, 0);
+        Check.same("33: bin 0", x.bestLoad(0, 50), 30);
+        Check.same("33: bin 1", x.bestLoad(1, 50), 85);
+        Check.same("34: bin 0", x.bestLoadByTrying(0, 50), 30);
+        Check.same("34: bin 1", x.bestLoadByTrying(1, 50), 85);
+        Check.same("35: bin 0", x.fairestSplit(0), 10);
+        Check.same("35: bin 1", x.fairestSplit(1), 15);
+        Check.same("36: bin 0", x.fairestSplitByTrying(0), 10);
+        Check.same("36: bin 1", x.fairestSplitByTrying(1), 15);
+        Check.same("33: bin 0 again", x.bestLoad(0, 50), 30);
+        Check.same("36: bin 1 again", x.fairestSplitByTrying(1), 15);
+        Check.same("35: bin 0 again", x.fairestSplit(0), 10);
     }
 
     private static void promises37And38Trades() {
