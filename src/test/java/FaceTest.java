@@ -85,6 +85,10 @@ public final class FaceTest {
                 Check.holds("named once: " + method, publicNames.add(method.getName()));
             }
         }
+        for (Method method : SighGranary.class.getDeclaredMethods()) {
+            Check.holds("rule 1: a name of its own: " + method,
+                    !isPrivate(method) || !publicNames.contains(method.getName()));
+        }
         Class<?>[] nested = SighGranary.class.getDeclaredClasses();
         Check.holds("rule 11: classes", nested.length < 12);
         for (Class<?> type : nested) {

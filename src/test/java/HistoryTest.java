@@ -74,28 +74,11 @@ public final class HistoryTest {
     }
 
     private static void undone(SighGranary x, Runnable change) {
-        String before = stateOf(x);
+        String before = Sight.ofData(x);
         change.run();
-        Check.holds("59: something is different", !before.equals(stateOf(x)));
+        Check.holds("59: something is different", !before.equals(Sight.ofData(x)));
         x.undo();
-        Check.same("59: as before", stateOf(x), before);
-    }
-
-    private static String stateOf(SighGranary x) {
-        StringBuilder text = new StringBuilder();
-        for (int bin = 0; bin < x.binCount(); bin++) {
-            text.append(Check.outputOf(x, x.writeBin(bin))).append(';');
-            for (int position = 0; position < x.sackCount(bin); position++) {
-                int sack = x.sackAt(bin, position);
-                text.append(Check.outputOf(x, x.writeSack(sack))).append('-').append(x.storedIn(sack)).append(';');
-            }
-        }
-        for (int month = 0; month < 12; month++) {
-            text.append(x.priceIn(month)).append(',');
-        }
-        text.append(x.month()).append(',').append(x.storedWeight()).append(',').append(x.soldWeight());
-        text.append(',').append(x.eatenWeight()).append(',').append(x.chaffWeight()).append(',').append(x.revenue());
-        return text.append(',').append(x.profit()).append(',').append(x.valueByAccounts()).toString();
+        Check.same("59: as before", Sight.ofData(x), before);
     }
 
     private static void promise59Depth() {
@@ -170,17 +153,17 @@ public final class HistoryTest {
         x.setMice(0, 4);
         x.passMonths(2);
         x.sell(0, 3);
-        String saved = stateOf(x);
+        String saved = Sight.ofData(x);
         Check.same("60: one bin, in place of the earlier", x.saveSnapshot(), 1);
-        Check.same("60: saving changes nothing", stateOf(x), saved);
+        Check.same("60: saving changes nothing", Sight.ofData(x), saved);
         x.sell(0, 5);
         x.sift(0, 9);
         x.addBin(50, 'f');
         Check.same("61: one bin", x.restoreSnapshot(), 1);
-        Check.same("61: as saved", stateOf(x), saved);
+        Check.same("61: as saved", Sight.ofData(x), saved);
         x.setTraps(0, 3);
         Check.same("61: it is kept", x.restoreSnapshot(), 1);
-        Check.same("61: as saved", stateOf(x), saved);
+        Check.same("61: as saved", Sight.ofData(x), saved);
     }
 
     private static void promise61History() {

@@ -53,16 +53,8 @@ public final class RandomRunsTest {
         return draw(0, 30) == 0 ? 'x' : "flh".charAt(draw(0, 2));
     }
 
-    private static String answer(IntSupplier call) {
-        try {
-            return Integer.toString(call.getAsInt());
-        } catch (RuntimeException thrown) {
-            return thrown.getClass().getSimpleName();
-        }
-    }
-
     private static void compare(String what, IntSupplier got, IntSupplier due) {
-        Check.same(what, answer(got), answer(due));
+        Check.same(what, Sight.answer(got), Sight.answer(due));
     }
 
     private void compareCall(String what) {
@@ -192,7 +184,7 @@ public final class RandomRunsTest {
     }
 
     private static int known(IntSupplier call) {
-        String answer = answer(call);
+        String answer = Sight.answer(call);
         return answer.equals("NoSuchElementException") ? 0 : Integer.parseInt(answer);
     }
 
@@ -291,7 +283,7 @@ public final class RandomRunsTest {
         compare(what + ": storedIn", () -> granary.storedIn(id), () -> model.sack(id).month());
         compare(what + ": binOf", () -> granary.binOf(id), () -> model.sack(id).bin());
         compare(what + ": writeSack", () -> granary.writeSack(id), () -> model.sackText(id).length());
-        if (answer(() -> granary.writeSack(id)).length() < 3) {
+        if (Sight.answer(() -> granary.writeSack(id)).length() < 3) {
             Check.same(what + ": text", Check.outputOf(granary, granary.writeSack(id)), model.sackText(id));
         }
     }
