@@ -13,6 +13,8 @@ public final class EdgesTest {
         idsAreNotUsedAgain();
         emptySacksDisappear();
         otherSacksStay();
+        soldSacksCountNoMore();
+        fullGranary();
         orderOfSacks();
         salesInOrder();
         siftingByGrade();
@@ -174,6 +176,85 @@ public final class EdgesTest {
                 Check.same("12 to 16: without sack " + gone, text, due[other]);
             }
         }
+    }
+
+    // What has disappeared has no part in anything that is asked or done later.
+    private static void soldSacksCountNoMore() {
+        for (int sold = 1; sold <= 4; sold++) {
+            SighGranary x = granary(100, 'f', 10, 10, 10, 10);
+            x.sell(0, 10 * sold);
+            int left = 40 - 10 * sold;
+            Check.same("9: sackCount", x.sackCount(0), 4 - sold);
+            Check.same("11: weightIn", x.weightIn(0), left);
+            Check.same("30: valueOf", x.valueOf(0), 2 * left);
+            Check.same("31: valueTotal", x.valueTotal(), 2 * left);
+            Check.same("43: weightTotal", x.weightTotal(), left);
+            bothLoads(x, 400, 2 * left);
+            Check.same("35: fairestSplit", x.fairestSplit(0), left % 20);
+            Check.same("36: fairestSplitByTrying", x.fairestSplitByTrying(0), left % 20);
+            Check.same("25: sift", x.sift(0, 5), left / 2);
+            x.setMice(0, 20);
+            Check.same("19: passMonths", x.passMonths(1), left / 2);
+            Check.same("9: nothing is left", x.sackCount(0), 0);
+            Check.same("32: valueByAccounts", x.valueByAccounts(), 0);
+        }
+    }
+
+    // Five bins with ten sacks each: all that there can be.
+    private static void fullGranary() {
+        SighGranary x = new SighGranary();
+        for (int bin = 0; bin < 5; bin++) {
+            x.addBin(400, "flhfl".charAt(bin));
+            for (int sack = 0; sack < 10; sack++) {
+                Check.same("4: id", x.addSack(bin, 40, 1 + bin, 0), 10 * bin + sack);
+            }
+        }
+        x.saveSnapshot();
+        for (int bin = 0; bin < 5; bin++) {
+            askFullBin(x, bin);
+        }
+        Check.same("31: valueTotal", x.valueTotal(), 400 * 15);
+        Check.same("32: valueByAccounts", x.valueByAccounts(), 400 * 15);
+        Check.same("43: weightTotal", x.weightTotal(), 2000);
+        Check.same("46: meanPrice", x.meanPrice(), 3.0);
+        Check.holds("49: isConsistent", x.isConsistent());
+        for (int bin = 0; bin < 5; bin++) {
+            emptyFullBin(x, bin);
+        }
+        Check.same("61: restoreSnapshot", x.restoreSnapshot(), 5);
+        Check.same("43: full again", x.weightTotal(), 2000);
+    }
+
+    private static void askFullBin(SighGranary x, int bin) {
+        Check.rejects("4: SACK_LIMIT", x, SighGranary.SACK_LIMIT, bin, () -> x.addSack(bin, 1, 1, 0));
+        Check.rejects("5: SACK_LIMIT", x, SighGranary.SACK_LIMIT, bin, () -> x.moveSack((10 * bin + 10) % 50, bin));
+        Check.same("9: sackCount", x.sackCount(bin), 10);
+        Check.same("10: sackAt", x.sackAt(bin, 9), 10 * bin + ("flhfl".charAt(bin) == 'l' ? 0 : 9));
+        Check.same("11: weightIn", x.weightIn(bin), 400);
+        Check.same("16: binOf", x.binOf(10 * bin + 9), bin);
+        Check.same("29: costOf", x.costOf(bin, 400), 400 * (1 + bin));
+        Check.same("30: valueOf", x.valueOf(bin), 400 * (1 + bin));
+        Check.same("33: bestLoad", x.bestLoad(bin, 200), 200 * (1 + bin));
+        Check.same("34: bestLoadByTrying", x.bestLoadByTrying(bin, 200), 200 * (1 + bin));
+        Check.same("35: fairestSplit", x.fairestSplit(bin), 0);
+        Check.same("36: fairestSplitByTrying", x.fairestSplitByTrying(bin), 0);
+        Check.same("48: binByValue", x.binByValue(bin), 4 - bin);
+    }
+
+    // Each change is made while all bins are full, and undone.
+    private static void emptyFullBin(SighGranary x, int bin) {
+        x.setMice(bin, 20);
+        Check.same("24: monthsUntilEmpty", x.monthsUntilEmpty(bin), 20);
+        Check.same("19: passMonths", x.passMonths(24), 400);
+        Check.same("9: all is eaten", x.sackCount(bin), 0);
+        x.undo();
+        x.setMice(bin, 0);
+        Check.same("25: sift", x.sift(bin, 9), 360);
+        x.undo();
+        Check.same("26: sell", x.sell(bin, 400), 4000);
+        Check.same("9: all is sold", x.sackCount(bin), 0);
+        x.undo();
+        Check.same("11: full again", x.weightIn(bin), 400);
     }
 
     // "heaviest means the heavier sack first, and of sacks of the same weight the one with the lower id"
