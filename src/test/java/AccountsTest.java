@@ -1,5 +1,4 @@
 import java.lang.reflect.Field;
-import java.util.Arrays;
 import java.util.NoSuchElementException;
 
 /** Promises 39 to 49. */
@@ -13,8 +12,6 @@ public final class AccountsTest {
         promise48BinByValue();
         promise49Consistent();
         promise49Inconsistent();
-        promise49Loads();
-        promise49Trades();
         Check.end();
     }
 
@@ -125,46 +122,6 @@ public final class AccountsTest {
             Object accounts = fieldOf(fieldOf(x, "data"), "accounts");
             setField(accounts, name, (int) fieldOf(accounts, name) + 1);
             Check.holds("49: a false " + name, !x.isConsistent());
-        }
-    }
-
-    // Sums of prices that are far too great run over, so that the table and the trying of loads differ: here they do
-    // when four sacks of 5 kilograms are within half the capacity, and do not when only three are.
-    private static void promise49Loads() throws ReflectiveOperationException {
-        for (int falsified = 0; falsified < 5; falsified++) {
-            for (int capacity = 38; capacity <= 42; capacity++) {
-                SighGranary x = new SighGranary();
-                for (int bin = 0; bin < 5; bin++) {
-                    x.addBin(bin == falsified ? capacity : 20, 'f');
-                }
-                for (int sack = 0; sack < 4; sack++) {
-                    x.addSack(falsified, 5, 1, 0);
-                }
-                Object data = fieldOf(x, "data");
-                Arrays.fill((int[]) fieldOf(fieldOf(data, "sacks"), "price"), 300_647_710);
-                setField(fieldOf(data, "accounts"), "paid", 20 * 300_647_710);
-                Check.same("49: loads of bin " + falsified + ", capacity " + capacity, x.isConsistent() ? 1 : 0,
-                        capacity / 2 < 20 ? 1 : 0);
-            }
-        }
-    }
-
-    // Each row, in hundreds of millions, makes the two ways differ for one number of trades alone.
-    private static void promise49Trades() throws ReflectiveOperationException {
-        int[][] rows = {{-4, -1, 19, 4, 11, -2, -4, -1, -1, 2, -2, 1}, {21, 0, -2, -2, 1, -3, -4, 1, 7, -4, 16, 3},
-            {3, -15, -3, -3, -4, 3, -1, 2, 21, -4, 4, 2}, {-3, 1, 6, -4, 0, -3, 0, -4, 3, 1, -4, -2},
-            {2, 3, -4, 1, -3, -2, -3, -3, -20, 1, 2, -2}, {4, 4, 4, -3, -4, 4, -4, 4, -1, 3, -3, 1}};
-        for (int row = 0; row < rows.length; row++) {
-            SighGranary x = new SighGranary();
-            int[] prices = (int[]) fieldOf(fieldOf(x, "data"), "prices");
-            for (int month = 0; month < 12; month++) {
-                prices[month] = 100_000_000 * rows[row][month];
-            }
-            for (int trades = 1; trades <= 6; trades++) {
-                Check.same("49: row " + row + ", trades " + trades,
-                        x.bestTrades(trades) == x.bestTradesByTrying(trades) ? 1 : 0, trades == row + 1 ? 0 : 1);
-            }
-            Check.holds("49: both ways to find the best " + (row + 1) + " trades differ", !x.isConsistent());
         }
     }
 
