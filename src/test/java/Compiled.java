@@ -5,8 +5,6 @@ import java.nio.file.Files;
 import java.nio.file.Path;
 import java.util.Comparator;
 import java.util.stream.Stream;
-import javax.tools.JavaCompiler;
-import javax.tools.ToolProvider;
 
 /** A class that a test writes, compiled in a directory of its own, which is gone after close. */
 final class Compiled implements AutoCloseable {
@@ -15,13 +13,13 @@ final class Compiled implements AutoCloseable {
     private final URLClassLoader loader;
 
     /** Other classes than those of the text come from the parent, or, without one, from the Java library alone. */
-    Compiled(String name, String text, ClassLoader parent) throws IOException, ClassNotFoundException {
+    Compiled(String name, String text, ClassLoader parent)
+            throws IOException, InterruptedException, ClassNotFoundException {
         place = Files.createTempDirectory("compiled");
         Path file = Files.writeString(place.resolve(name + ".java"), text);
-        JavaCompiler compiler = ToolProvider.getSystemJavaCompiler();
-        int errors = compiler.run(null, null, null, "-cp", System.getProperty("java.class.path"), "-d",
-                place.toString(), file.toString());
-        Check.same("compiling a written " + name, errors, 0);
+        Process compiling = new ProcessBuilder("javac", "-cp", System.getProperty("java.class.path"), "-d",
+                place.toString(), file.toString()).inheritIO().start();
+        Check.same("compiling a written " + name, compiling.waitFor(), 0);
         loader = new URLClassLoader(new URL[] {place.toUri().toURL()}, parent);
         type = loader.loadClass(name);
     }

@@ -16,7 +16,7 @@ public final class ConsistencyTest implements AutoCloseable {
 
     /** Compiles a copy in which a method answers 1 too much when something is true of its arguments and fields. */
     private ConsistencyTest(String method, String parameters, String arguments, String when)
-            throws IOException, ReflectiveOperationException {
+            throws IOException, InterruptedException, ReflectiveOperationException {
         String head = "int " + method + "(" + parameters + ") {";
         String text = Files.readString(Path.of("src/main/java/SighGranary.java"));
         Check.same("pieces of the class around " + head, text.split(Pattern.quote(head), -1).length, 2);
@@ -27,7 +27,7 @@ public final class ConsistencyTest implements AutoCloseable {
         granary = maker.newInstance();
     }
 
-    public static void main(String[] args) throws IOException, ReflectiveOperationException {
+    public static void main(String[] args) throws IOException, InterruptedException, ReflectiveOperationException {
         loads();
         splits();
         trades();
@@ -35,7 +35,7 @@ public final class ConsistencyTest implements AutoCloseable {
     }
 
     // "for all bins, both ways to find the best load agree for a limit of half the capacity, rounded down"
-    private static void loads() throws IOException, ReflectiveOperationException {
+    private static void loads() throws IOException, InterruptedException, ReflectiveOperationException {
         String when = "limit == 21 && count == 3";
         try (ConsistencyTest x = new ConsistencyTest("loadByTable", "int limit", "limit", when)) {
             for (int bin = 0; bin < 5; bin++) {
@@ -50,7 +50,7 @@ public final class ConsistencyTest implements AutoCloseable {
     }
 
     // "for all bins, [..] both ways to find the fairest split agree"
-    private static void splits() throws IOException, ReflectiveOperationException {
+    private static void splits() throws IOException, InterruptedException, ReflectiveOperationException {
         try (ConsistencyTest x = new ConsistencyTest("splitByTable", "", "", "count == 3")) {
             for (int bin = 0; bin < 5; bin++) {
                 for (int sacks = 0; sacks <= 10; sacks++) {
@@ -62,7 +62,7 @@ public final class ConsistencyTest implements AutoCloseable {
     }
 
     // "both ways to find the best trades agree for all numbers of trades"
-    private static void trades() throws IOException, ReflectiveOperationException {
+    private static void trades() throws IOException, InterruptedException, ReflectiveOperationException {
         String parameters = "int[] prices, int trades";
         String when = "trades == prices[0]";
         try (ConsistencyTest x = new ConsistencyTest("tradesByTable", parameters, "prices, trades", when)) {

@@ -11,7 +11,7 @@ public final class ReadmeTest {
     private static final Pattern EXAMPLE = Pattern.compile("(?s)```java\n(.*?)```");
     private static final Pattern ANSWERED = Pattern.compile("\\s*(int \\w+ = )?(granary\\..*); +// ([^ ,]+).*");
 
-    public static void main(String[] args) throws IOException, ReflectiveOperationException {
+    public static void main(String[] args) throws IOException, InterruptedException, ReflectiveOperationException {
         StringBuilder program = new StringBuilder("public class Examples {\n");
         program.append("public static void run(java.util.Map<String, long[]> answers) {\n");
         Matcher example = EXAMPLE.matcher(Files.readString(Path.of("README.md")));
